@@ -355,7 +355,8 @@ public final class LanguageTest {
     }
 
     private static String source(String body) {
-        return "public final class RookHouse { " + body + " }";
+        int behind = body.startsWith("import ") ? body.indexOf(';') + 1 : 0;
+        return body.substring(0, behind) + " public final class RookHouse { " + body.substring(behind) + " }";
     }
 
     private static String chain(int calls) {
@@ -389,6 +390,8 @@ public final class LanguageTest {
         {4, "private int a(int b) { return Math.addExact(b, 1); }"},
         {4, "private static final String A = \"\u00e9\";"},
         {4, "private int a() { return new java.util.Random().nextInt(); }"},
+        {4, "import java.util.HashMap; private int a;"},
+        {0, "import java.util.Arrays; private void a(int[] b) { Arrays.fill(b, 0); }"},
         {5, "private static int a;"},
         {5, "private static final short A = 1;"},
         {5, "static { }"},
